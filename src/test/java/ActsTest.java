@@ -235,6 +235,12 @@ public final class ActsTest {
         CHECK.due("ten at most", x.about(6), 10);
         for (int left = 9; left >= 0; left--) {
             CHECK.due("undo()", x.undo(), left);
+            // By twelve, eleven .. acts less one each: where record 0, 1 and 2 stand then, and what is left.
+            int carried = Math.min(left + 2, 9);
+            CHECK.due("floor of 0", x.record(0, 4), left == 9 ? 4 : Math.min(3, carried));
+            CHECK.due("floor of 1", x.record(1, 4), Math.max(0, Math.min(3, carried - 3)));
+            CHECK.due("floor of 2", x.record(2, 4), Math.max(0, Math.min(3, carried - 6)));
+            CHECK.due("left", x.about(5), left == 9 ? 8 : left == 8 ? 9 : 9 - carried);
         }
         CHECK.due("undo()", x.undo(), SinkingArchive.LATE);
         CHECK.due("the first two stand", x.record(0, 4), 2);

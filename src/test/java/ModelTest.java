@@ -135,7 +135,7 @@ public final class ModelTest {
     private void some() {
         switch (below(12)) {
             case 0: case 1: case 2: acts(); break;
-            case 3: plans(); break;
+            case 3: plans(); plans(); break;
             case 4: asked(); break;
             case 5: index(); break;
             case 6: floods(); break;
@@ -158,8 +158,29 @@ public final class ModelTest {
         state();
     }
 
+    /** More acts than are remembered, then all of them back. */
+    private void manyActs() {
+        due("effort(99)", x.effort(99), m.effort(99));
+        for (int i = below(60); i >= 0; i--) {
+            int r = below(8);
+            int g = below(5);
+            if (oneIn(12)) {
+                due("decade()", x.decade(), m.decade());
+            }
+            due("carry(" + r + ", " + g + ")", x.carry(r, g), m.carry(r, g));
+            due("anew(" + r + ", " + g + ")", x.anew(r, g), m.anew(r, g));
+        }
+        state();
+        for (int i = below(13); i > 0; i--) {
+            due("undo()", x.undo(), m.undo());
+            state();
+        }
+    }
+
     private void undoOrEffort() {
-        if (oneIn(2)) {
+        if (oneIn(12)) {
+            manyActs();
+        } else if (oneIn(2)) {
             for (int i = below(4); i >= 0; i--) {
                 due("undo()", x.undo(), m.undo());
             }
@@ -173,9 +194,11 @@ public final class ModelTest {
     private void plans() {
         int d = some(1, oneIn(4) ? 3 : 2);
         int r = someRecord();
-        due("most(" + d + ")", x.most(d), m.most(d));
-        due("least(" + d + ")", x.least(d), m.least(d));
-        due("planAt(" + d + ", " + r + ")", x.planAt(d, r), m.planAt(d, r));
+        switch (below(4)) {
+            case 0: due("most(" + d + ")", x.most(d), m.most(d)); break;
+            case 1: due("least(" + d + ")", x.least(d), m.least(d)); break;
+            default: due("planAt(" + d + ", " + r + ")", x.planAt(d, r), m.planAt(d, r)); break;
+        }
     }
 
     private void asked() {

@@ -4,6 +4,7 @@ public final class PlansTest {
     private static final Check CHECK = new Check("PlansTest");
 
     public static void main(String[] args) {
+        eachAlone();
         refusals();
         oneRecord();
         dampAhead();
@@ -13,6 +14,13 @@ public final class PlansTest {
         joinedForgedSkin();
         noFloorAnyMore();
         CHECK.finish();
+    }
+
+    private static void eachAlone() {
+        String text = "T3999999R15100";
+        CHECK.due("most alone", Check.towerOf(text).most(2), 4);
+        CHECK.due("least alone", Check.towerOf(text).least(2), 2);
+        CHECK.due("planAt alone", Check.towerOf(text).planAt(2, 0), 2);
     }
 
     private static void refusals() {
@@ -37,11 +45,16 @@ public final class PlansTest {
     }
 
     private static void plan(String when, SinkingArchive x, int d, int most, int least, int... floors) {
-        CHECK.due(when + ": most(" + d + ")", x.most(d), most);
-        CHECK.due(when + ": least(" + d + ")", x.least(d), least);
+        // Each call stands for itself: another plan is asked for between them.
+        int other = d % 3 + 1;
         for (int r = 0; r < floors.length; r++) {
+            x.most(other);
             CHECK.due(when + ": planAt(" + d + ", " + r + ")", x.planAt(d, r), floors[r]);
         }
+        x.most(other);
+        CHECK.due(when + ": least(" + d + ")", x.least(d), least);
+        x.least(other);
+        CHECK.due(when + ": most(" + d + ")", x.most(d), most);
     }
 
     private static void oneRecord() {
