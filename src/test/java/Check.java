@@ -16,6 +16,10 @@ final class Check {
         }
     }
 
+    void yes(String what, boolean holds) {
+        due(what, holds ? 1 : 0, 1);
+    }
+
     /** The answers of about(0) .. about(9) in a row. */
     void dueAbout(String when, SinkingArchive x, int... want) {
         for (int what = 0; what < want.length; what++) {

@@ -30,10 +30,6 @@ public final class FaceTest {
         CHECK.finish();
     }
 
-    private static void yes(String what, boolean holds) {
-        CHECK.due(what, holds ? 1 : 0, 1);
-    }
-
     private static void members() {
         Set<String> face = new TreeSet<>(Set.of(FACE.split(" ")));
         Set<String> publicNames = new TreeSet<>();
@@ -51,18 +47,18 @@ public final class FaceTest {
             if (isPublic) {
                 found.add(told.toString());
             } else {
-                yes(m + " is private", Modifier.isPrivate(m.getModifiers()));
-                yes(m + " has a name of its own", !publicNames.contains(m.getName()));
+                CHECK.yes(m + " is private", Modifier.isPrivate(m.getModifiers()));
+                CHECK.yes(m + " has a name of its own", !publicNames.contains(m.getName()));
             }
         }
-        yes("the calls are " + face + ", found are " + found, found.equals(face));
+        CHECK.yes("the calls are " + face + ", found are " + found, found.equals(face));
         Constructor<?>[] made = SinkingArchive.class.getDeclaredConstructors();
-        yes("one public constructor", made.length == 1 && made[0].getParameterCount() == 0 && Modifier.isPublic(made[0].getModifiers()));
-        yes("public and final", Modifier.isPublic(SinkingArchive.class.getModifiers()) && Modifier.isFinal(SinkingArchive.class.getModifiers()));
+        CHECK.yes("one public constructor", made.length == 1 && made[0].getParameterCount() == 0 && Modifier.isPublic(made[0].getModifiers()));
+        CHECK.yes("public and final", Modifier.isPublic(SinkingArchive.class.getModifiers()) && Modifier.isFinal(SinkingArchive.class.getModifiers()));
         Class<?>[] inside = SinkingArchive.class.getDeclaredClasses();
-        yes("some twelve classes", inside.length < 12);
+        CHECK.yes("some twelve classes", inside.length < 12);
         for (Class<?> c : inside) {
-            yes(c + " is static and not public", Modifier.isStatic(c.getModifiers()) && !Modifier.isPublic(c.getModifiers()));
+            CHECK.yes(c + " is static and not public", Modifier.isStatic(c.getModifiers()) && !Modifier.isPublic(c.getModifiers()));
         }
     }
 
@@ -77,19 +73,19 @@ public final class FaceTest {
             if (!Modifier.isPrivate(f.getModifiers())) {
                 names.add(f.getName());
             }
-            yes(f + " is final if it is static", !Modifier.isStatic(f.getModifiers()) || Modifier.isFinal(f.getModifiers()));
+            CHECK.yes(f + " is final if it is static", !Modifier.isStatic(f.getModifiers()) || Modifier.isFinal(f.getModifiers()));
         }
-        yes("no more constants: " + names, names.equals(Set.of("UNKNOWN", "BAD", "LATE", "FULL", "NONE")));
+        CHECK.yes("no more constants: " + names, names.equals(Set.of("UNKNOWN", "BAD", "LATE", "FULL", "NONE")));
     }
 
     private static void words(String code) {
         for (String word : BANNED.split(" ")) {
-            yes("no " + word, !Pattern.compile("\\b" + word + "\\b").matcher(code).find());
+            CHECK.yes("no " + word, !Pattern.compile("\\b" + word + "\\b").matcher(code).find());
         }
-        yes("no lambda, no method reference", !code.contains("->") && !code.contains("::"));
+        CHECK.yes("no lambda, no method reference", !code.contains("->") && !code.contains("::"));
         Matcher library = Pattern.compile("\\b(System|Math|Integer|Long|Arrays)\\.(\\w+)").matcher(code);
         while (library.find()) {
-            yes(library.group() + " is of the library", Set.of("System.arraycopy", "Math.max", "Math.min", "Integer.bitCount").contains(library.group()));
+            CHECK.yes(library.group() + " is of the library", Set.of("System.arraycopy", "Math.max", "Math.min", "Integer.bitCount").contains(library.group()));
         }
     }
 
@@ -99,10 +95,10 @@ public final class FaceTest {
         while (head.find()) {
             int end = code.indexOf("\n" + head.group(1) + "}", head.end());
             long lines = code.substring(head.start(), end).lines().count();
-            yes(head.group(2) + " is short: " + lines, lines <= 60);
-            yes(head.group(2) + " takes seven at most", head.group(3).split(",").length <= 7);
+            CHECK.yes(head.group(2) + " is short: " + lines, lines <= 60);
+            CHECK.yes(head.group(2) + " takes seven at most", head.group(3).split(",").length <= 7);
             seen++;
         }
-        yes("methods were seen", seen > 60);
+        CHECK.yes("methods were seen", seen > 60);
     }
 }
