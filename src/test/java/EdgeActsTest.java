@@ -30,6 +30,7 @@ public final class EdgeActsTest {
         togetherAlone();
         togetherAllEight();
         togetherAgainAndAgain();
+        togetherBesideADrownedOne();
         keptOfForgedNought();
         actsTenAtMost();
         actsOfEachSort();
@@ -405,6 +406,16 @@ public final class EdgeActsTest {
         SinkingArchive x = Check.towerOf("T29999R10000R10030R10010R10030R10030R10020R10000R10030");
         int[] want = {3, 3, 28, 28, 28, 32, 192, 192};
         for (int r = 0; r < 8; r++) {
+            CHECK.due("together(" + r + ")", x.together(r), want[r]);
+        }
+    }
+
+    /** Ones that are numbered next to a drowned one, but hang together with another. */
+    private static void togetherBesideADrownedOne() {
+        SinkingArchive x = Check.towerOf("T29999R10000R10001R10031R10000R10001R10031");
+        x.decade();
+        int[] want = {LATE, 6, 6, LATE, 48, 48};
+        for (int r = 0; r < 6; r++) {
             CHECK.due("together(" + r + ")", x.together(r), want[r]);
         }
     }

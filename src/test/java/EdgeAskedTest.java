@@ -307,6 +307,16 @@ public final class EdgeAskedTest {
                 dueDive("just in time", x, takes, 10, takes, 1);
             }
         }
+        // From each floor to the water above all.
+        for (int floor = 0; floor < 5; floor++) {
+            SinkingArchive x = Check.towerOf("T59999999999R1101" + floor);
+            for (int i = 0; i < 5; i++) {
+                x.decade();
+            }
+            int takes = 2 * (5 - floor) + 1;
+            dueDive("one minute too few", x, takes - 1, 0, 0, 0);
+            dueDive("just in time", x, takes, 10, takes, 1);
+        }
         // Two together: 3 and 4 minutes.
         SinkingArchive x = Check.towerOf("T29999R11000R22000");
         x.decade();

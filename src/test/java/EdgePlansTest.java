@@ -18,6 +18,7 @@ public final class EdgePlansTest {
         carriedOrNot();
         noFloorAnyMore();
         drownedOnesStay();
+        drownedInThePlan();
         firstByTheFloorOfRecordNought();
         joinedOnesGoAlike();
         dampInPlans();
@@ -25,11 +26,16 @@ public final class EdgePlansTest {
     }
 
     private static void plan(String when, SinkingArchive x, int d, int most, int least, int... floors) {
-        CHECK.due(when + ": most(" + d + ")", x.most(d), most);
-        CHECK.due(when + ": least(" + d + ")", x.least(d), least);
+        // Ahead of each call another plan is asked for: none may answer by what was found then.
+        int other = d % 3 + 1;
         for (int r = 0; r < floors.length; r++) {
+            x.least(other);
             CHECK.due(when + ": planAt(" + d + ", " + r + ")", x.planAt(d, r), floors[r]);
         }
+        x.planAt(other, 0);
+        CHECK.due(when + ": most(" + d + ")", x.most(d), most);
+        x.most(other);
+        CHECK.due(when + ": least(" + d + ")", x.least(d), least);
     }
 
     private static void refused(String when, SinkingArchive x, int d, int want) {
@@ -220,6 +226,19 @@ public final class EdgePlansTest {
         plan("three lie", x, 1, 0, 0, 0, 1, 2, 0);
         x.decade();
         plan("all lie", x, 3, 0, 0, 0, 1, 2, 0);
+    }
+
+    /** The first one drowns within the plan, which it cannot help; the others go on up behind that. */
+    private static void drownedInThePlan() {
+        SinkingArchive x = Check.towerOf("T499090909R91010R11010R11011");
+        x.effort(2);
+        plan("one lost", x, 1, 2, 1, 0, 1, 1);
+        plan("one lost, two on floor 2", x, 2, 2, 3, 0, 1, 1);
+        plan("one lost, two on floor 3", x, 3, 2, 5, 0, 1, 1);
+        x.effort(1);
+        plan("one lost", x, 1, 2, 1, 0, 1, 1);
+        plan("two lost", x, 2, 1, 1, 0, 0, 1);
+        plan("two lost", x, 3, 1, 2, 0, 0, 1);
     }
 
     // "of like ones the first by the FLOOR of RECORD 0 ahead of the first DECADE, then RECORD 1, .."

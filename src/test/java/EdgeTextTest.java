@@ -241,7 +241,13 @@ public final class EdgeTextTest {
         next("T20909R10000R10000Q01Q", "1");
         nextWhole("T20909R10000R10000Q01Q1", "0");
         next("T20909R10000R10000Q01Q10", "R");
+        // By one that has cited all others no more may come, by the last that has not one may.
+        next("T20909R10000R10000Q10", "RQ");
+        next("T20909R10000R10000Q10Q", "0");
         String three = "T20909R10000R10000R10000";
+        next(three + "Q10Q12Q20Q21Q01", "RQ");
+        next(three + "Q10Q12Q20Q21Q01Q", "0");
+        next(three + "Q01Q02Q20Q21Q10Q", "1");
         nextWhole(three + "Q01Q0", "2");
         nextWhole(three + "Q01Q1", "02");
         next(three + "Q01Q02Q", "12");
